@@ -36,8 +36,6 @@ public final class GeeseKeys {
     private final Whole kept = new Whole();
     private boolean isKept = false;
     private final Ahead ahead = new Ahead();
-    private final int[] text = new int[TEXT_BYTES];
-    private int textSize = 0;
     private final Reader reader = new Reader();
     private int fortresses = 0;
     private final Acts acts = new Acts();
@@ -173,20 +171,20 @@ public final class GeeseKeys {
         if (sign < 0 || sign > 127) {
             return BAD;
         }
-        if (textSize == TEXT_BYTES) {
+        if (reader.size == TEXT_BYTES) {
             return FULL;
         }
-        text[textSize] = sign;
-        textSize++;
-        return textSize;
+        reader.text[reader.size] = sign;
+        reader.size++;
+        return reader.size;
     }
 
     public int fortress() {
         if (fortresses == FORTRESSES) {
             return FULL;
         }
-        Fortress told = reader.fortressIn(text, textSize);
-        textSize = 0;
+        Fortress told = reader.fortressTold();
+        reader.size = 0;
         if (told == null) {
             return -10 - reader.at;
         }
@@ -442,7 +440,7 @@ public final class GeeseKeys {
             case 5:
                 return now.book.size;
             case 6:
-                return textSize;
+                return reader.size;
             case 7:
                 return acts.ran;
             default:
@@ -1073,21 +1071,19 @@ public final class GeeseKeys {
         }
     }
 
-    /** Reads fortresses: each part answers whether it is there; if not, the reader stands at the fault. */
+    /** The text and its reader: each part answers whether it is there; if not, the reader stands at the fault. */
     private static final class Reader {
         /** In the order of a fortress's values, and of its steps. */
         private static final String LETTERS = "pkvcgh", SIGNS = "<=>";
 
+        final int[] text = new int[TEXT_BYTES];
+        int size = 0;
         int at = 0;
-        private int[] text = null;
-        private int size = 0;
         private int number = 0;
         private Fortress fortress = new Fortress();
 
-        /** The fortress that a text tells, or null. */
-        Fortress fortressIn(int[] newText, int newSize) {
-            text = newText;
-            size = newSize;
+        /** The fortress that the text tells, or null. */
+        Fortress fortressTold() {
             at = 0;
             fortress.clear();
             for (int clauses = 1; clauses <= CLAUSES && readClause(); clauses++) {

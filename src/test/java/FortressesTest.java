@@ -350,10 +350,24 @@ public final class FortressesTest {
         GeeseKeys x = Check.told("eat 7");
         due("11 fault", Check.feed(x, "eat 8 ").fortress(), -15);
         due("11 the one that held holds", x.told(1), 7);
+        GeeseKeys y = Check.feed(new GeeseKeys(), "eat 8;lure 9 p=0;!");
+        y.goose(0, 0, 0, 0);
+        due("11 fault", y.fortress(), -27);
+        due("11 nothing of it holds", y.told(1), 1);
+        due("11 nothing of it holds", Check.feed(y, "lure 2 c=1").fortress(), 0);
+        due("11 nothing of it holds", y.told(1), 1);
+        due("11 nothing of it holds", y.of(0, 10), 5);
         for (int number = 1; number < 6; number++) {
             due("11 more", Check.feed(x, "eat " + number).fortress(), number);
             due("11 the newest holds", x.told(1), number);
         }
+        y = Check.feed(new GeeseKeys(), "lure 1 p=12&p=1)");
+        due("11 fault", y.fortress(), -25);
+        due("11 nothing of the text ahead", Check.feed(y, "lure 1 p=12").fortress(), 0);
+        due("11 nothing of the text ahead", Check.feed(y, "lure 1 p=1").fortress(), 1);
+        due("11 nothing of the text ahead", Check.feed(y, "lure 1 ").fortress(), -17);
+        due("11 nothing of the text ahead", Check.feed(y, "eat 1").fortress(), 2);
+        due("11 nothing of the text ahead", y.told(1), 1);
         due("11 six", x.count(2), 6);
         Check.feed(x, "eat 9");
         due("11 full", x.fortress(), -4);
@@ -376,6 +390,12 @@ public final class FortressesTest {
             }
         }
         dueSum("h=15", false);
+        dueSum("p<2&p>0", true);
+        dueSum("p<2&p>0&v=3", true);
+        dueSum("p>0&p<2", true);
+        dueSum("p<2|p>1", true);
+        dueSum("p>0|p<1", true);
+        dueSum("v=3&(p<2|p<1)&p>0", true);
         dueSum("!p=1", false);
         dueSum("!!p=1", true);
         dueSum("p=1|p=1&p=2", true);

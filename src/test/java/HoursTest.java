@@ -211,6 +211,41 @@ public final class HoursTest {
         due("16 the least, not the first", x.way(5, 1, 1), 13);
     }
 
+    /** As many gates and geese as there can be: the last of each goes and opens as the first. */
+    private static void fullHouse() {
+        GeeseKeys x = Check.told("eat 1");
+        for (int gate = 0; gate < 9; gate++) {
+            x.gate(gate % 8, (gate + 1) % 8);
+        }
+        for (int goose = 0; goose < 6; goose++) {
+            x.goose(goose == 5 ? 1 : 3, goose, goose + 1, goose);
+        }
+        x.key(5, 8);
+        x.grain(7, 14);
+        due("12 open", x.told(2), 31);
+        due("12 shut", x.told(3), 7 << 5);
+        due("14 a gander goes", x.on(1, 25), 7);
+        due("14 and on to 0, that is left", x.on(11, 25), 0);
+        due("14 by 8", x.on(11, 0) >> 8, 1);
+        due("16 round", x.way(0, 5, 0), 5);
+        due("16 round", x.way(0, 6, 0), -5);
+        due("16 no keys for a gate without one", x.way(6, 7, 1), -5);
+        x.key(4, 6);
+        due("16 keys of the last two", x.way(6, 7, 0), -5);
+        due("16 keys of the last two", x.way(6, 7, 1), 45);
+        due("28 image", x.image(), 6);
+        x.put(5, 3);
+        due("29 undo", x.undo(), 6);
+        due("29 undo", x.of(5, 2), 6);
+        x = Check.line(Check.told("eat 0"), 1);
+        x.goose(1, 7, 0, 0);
+        x.goose(3, 0, 1, 0);
+        x.grain(1, 12);
+        due("14 a gander's v counts ahead", x.on(1, 20), 0);
+        x.grain(1, 13);
+        due("14 a gander's v counts ahead", x.on(1, 20), 1);
+    }
+
     private static void lead() {
         GeeseKeys x = Check.line(new GeeseKeys(), 2);
         x.goose(0, 0, 0, 1);
@@ -239,5 +274,12 @@ public final class HoursTest {
         due("17 -5 is greater than all", x.opens(2), -5);
         x.put(0, 1);
         due("17 not less than 0", x.lead(2, 30), -5);
+        x = Check.line(Check.told("eat 0"), 2);
+        x.goose(0, 0, 1, 0);
+        x.key(0, -1);
+        x.goose(0, 0, 1, 2);
+        x.gate(0, 7);
+        due("17 court 0", x.lead(2, 1), 0);
+        fullHouse();
     }
 }

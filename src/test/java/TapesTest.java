@@ -94,12 +94,41 @@ public final class TapesTest {
         x = new GeeseKeys();
         x.image();
         x.goose(6, 1, 2, 3);
+        x.row(0, 0, 6);
         x.row(0, 1, 7);
+        x.gate(2, 3);
+        x.gate(2, 4);
+        x.gate(2, 5);
+        x.gate(2, 6);
+        x.grain(6, 9);
+        due("12 open", x.told(2), 8);
         x.take(0, true);
+        x.image();
+        due("29 taken", x.undo(), 1);
+        due("29 taken", x.of(0, 4), 1);
+        x = new GeeseKeys();
+        x.image();
+        x.goose(6, 1, 2, 3);
+        x.goose(0, 1, 2, 3);
+        x.row(0, 0, 6);
+        x.row(0, 1, 7);
+        for (int court = 3; court < 7; court++) {
+            x.gate(2, court);
+        }
+        x.grain(6, 9);
+        due("12 open", x.told(2), 8);
+        due("29 none", x.undo(), 0);
+        due("12 open", x.told(2), 0);
+        due("12 shut", x.told(3), 0);
+        due("12 far", x.told(22), 4);
+        due("13 nobody eats", x.pass(1) + x.told(4), 41);
         x.undo();
         x.goose(6, 2, 1, 4);
         due("3 a new one in her place", x.of(0, 1), 2);
+        due("3 a new one in her place", x.row(0, 0, 0), 0);
         due("3 a new one in her place", x.row(0, 1, 0), 0);
+        due("3 a new one in her place", x.of(0, 5), 1);
+        due("12 far", x.told(21), 2);
         due("3 a new one in her place", x.of(0, 4), 0);
     }
 
@@ -300,7 +329,8 @@ public final class TapesTest {
         due("34 still nothing", x.item(0, 0, 0), -11);
         for (int sort = 0; sort < 5; sort++) {
             due("34 sixty", x.tape(5, sort, 60), 1);
-            due("34 all 0", x.read(5, 59), 0);
+            due("34 all 0", x.read(5, 0) | x.read(5, 59), 0);
+            due("34 the first", x.item(5, 0, 1), 1);
             due("34 the last", x.item(5, 59, 1), 1);
             due("34 none", x.tape(5, sort, 0), 1);
             due("34 no place", x.item(5, 0, 1), -13);
