@@ -1233,11 +1233,11 @@ public final class GeeseKeys {
             v = her.v;
             switch (act) {
                 case 0:
-                    return honks(own, x);
+                    return honks(this, own, x);
                 case 1:
-                    return struts(own, x);
+                    return struts(this, own, x);
                 default:
-                    return tells(own, x);
+                    return tells(this, own, x);
             }
         }
 
@@ -1248,53 +1248,54 @@ public final class GeeseKeys {
             ran++;
         }
 
-        private int honks(int kind, int x) {
+        /** How a kind honks. Static, as struts and tells are: LANGUAGE.md asks it of what calls itself. */
+        private static int honks(Acts acts, int kind, int x) {
             switch (kind) {
                 case GOSLING:
                 case LARDER:
-                    begin(30);
-                    return honks(PLAIN, x * 3);
+                    acts.begin(30);
+                    return honks(acts, PLAIN, x * 3);
                 case SENTRY:
-                    begin(50);
-                    return -honks(GANDER, x);
+                    acts.begin(50);
+                    return -honks(acts, GANDER, x);
                 case TOLD:
-                    begin(71);
-                    return honks(OLD, x) ^ v;
+                    acts.begin(71);
+                    return honks(acts, OLD, x) ^ acts.v;
                 default:
-                    begin(10);
-                    return x + i;
+                    acts.begin(10);
+                    return x + acts.i;
             }
         }
 
-        private int struts(int kind, int x) {
+        private static int struts(Acts acts, int kind, int x) {
             switch (kind) {
                 case GANDER:
-                    begin(20);
-                    return struts(PLAIN, x) ^ 6;
+                    acts.begin(20);
+                    return struts(acts, PLAIN, x) ^ 6;
                 case SENTRY:
-                    begin(51);
-                    return struts(GANDER, x + 1);
+                    acts.begin(51);
+                    return struts(acts, GANDER, x + 1);
                 case TOLD:
-                    begin(70);
-                    return struts(OLD, x) + honks(OLD, 2);
+                    acts.begin(70);
+                    return struts(acts, OLD, x) + honks(acts, OLD, 2);
                 default:
-                    begin(11);
-                    return honks(own, x) - v;
+                    acts.begin(11);
+                    return honks(acts, acts.own, x) - acts.v;
             }
         }
 
-        private int tells(int kind, int x) {
+        private static int tells(Acts acts, int kind, int x) {
             switch (kind) {
                 case OLD:
                 case TOLD:
-                    begin(40);
-                    return tells(PLAIN, x) + struts(own, 1);
+                    acts.begin(40);
+                    return tells(acts, PLAIN, x) + struts(acts, acts.own, 1);
                 case LARDER:
-                    begin(60);
-                    return tells(GOSLING, x - i);
+                    acts.begin(60);
+                    return tells(acts, GOSLING, x - acts.i);
                 default:
-                    begin(12);
-                    return struts(own, x) * 2;
+                    acts.begin(12);
+                    return struts(acts, acts.own, x) * 2;
             }
         }
     }

@@ -26,6 +26,7 @@ public final class LanguageTest {
         names();
         words();
         sizes();
+        recursion();
         CHECK.end();
     }
 
@@ -123,5 +124,22 @@ public final class LanguageTest {
             CHECK.isSo("a method of some sixty lines at most", !line.matches("( {4}| {8})\\}") || lines <= 60);
             CHECK.isSo("a line of 120 signs at most", line.length() <= 120);
         }
+    }
+
+    /** What calls itself is private and static, or, as one of those that call one another, carries its depth. */
+    private static void recursion() throws Exception {
+        Matcher each = Pattern.compile("(?m)^( {4}| {8})(?! )([\\w\\[\\] ]*?)(\\w+)\\(([^)]*)\\) \\{\\R((?s:.*?))^\\1\\}").matcher(bare());
+        int methods = 0;
+        int selves = 0;
+        while (each.find()) {
+            methods++;
+            if (Pattern.compile("(?<![.\\w])" + each.group(3) + "\\(").matcher(each.group(5)).find()) {
+                selves++;
+                CHECK.isSo(each.group(3) + " may call itself", each.group(2).startsWith("private static ")
+                    || each.group(2).startsWith("private ") && each.group(4).contains("int depth"));
+            }
+        }
+        CHECK.isSo("methods are found: " + methods, methods > 100);
+        CHECK.due("methods that call themselves", selves, 4);
     }
 }

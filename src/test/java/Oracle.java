@@ -195,36 +195,39 @@ final class Oracle {
         }
 
         int opens(int g) {
+            World w = copy();
             for (int n = 0; n <= 20; n++) {
-                if (copy().go(n).open(g)) {
+                if (w.open(g)) {
                     return n;
                 }
+                w.go(1);
             }
             return -5;
         }
 
-        boolean[] reached(int from, int n) {
-            boolean[] at = new boolean[8];
-            at[from] = true;
+        /** For 0 .. 15 hours the courts to which he gets in so many. */
+        boolean[][] reached(int from) {
+            boolean[][] at = new boolean[16][8];
+            at[0][from] = true;
             World w = copy();
-            for (int i = 0; i < n; i++) {
-                boolean[] next = at.clone();
+            for (int n = 0; n < 15; n++) {
+                at[n + 1] = at[n].clone();
                 for (int g = 0; g < gates.size(); g++) {
                     int[] ends = gates.get(g);
                     if (w.open(g)) {
-                        next[ends[0]] |= at[ends[1]];
-                        next[ends[1]] |= at[ends[0]];
+                        at[n + 1][ends[0]] |= at[n][ends[1]];
+                        at[n + 1][ends[1]] |= at[n][ends[0]];
                     }
                 }
-                at = next;
                 w.go(1);
             }
             return at;
         }
 
         int way(int from, int to) {
+            boolean[][] at = reached(from);
             for (int n = 0; n <= 15; n++) {
-                if (reached(from, n)[to]) {
+                if (at[n][to]) {
                     return n;
                 }
             }
@@ -366,7 +369,7 @@ final class Oracle {
         if (what == 4) return w.all();
         if (what >= 10 && what <= 17) return w.grain[what - 10];
         if (what < 20 || what > 27) return -1;
-        return bits(w.reached(what - 20, 15));
+        return bits(w.reached(what - 20)[15]);
     }
 
     private static int bits(boolean[] is) {
